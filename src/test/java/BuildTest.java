@@ -52,6 +52,10 @@ final class BuildTest {
         bothTrails("of 1, as placed", x, 1, 2);
         bothTrails("of 2, apart", x, 2, 1);
         Check.same("8: two points for it", x.points(0), 4);
+        x.trail(1);
+        Check.same("29: whoever was asked for ahead of it", x.trailBySets(0), 5);
+        x.trailBySets(2);
+        Check.same("28: whoever was asked for ahead of it", x.trail(0), 5);
     }
 
     private static void roadRefused() {
@@ -156,6 +160,16 @@ final class BuildTest {
         y.roll(1, 1);
         Check.refused("9: another's road", y, Check.STATE, () -> y.house(9));
         Check.refused("9: index ahead of state", y, Check.INDEX, () -> y.house(24));
+        y.endTurn();
+        Games.pass(y);
+        Check.refused("9: ahead of rolling", y, Check.STATE, () -> y.house(9));
+        Check.refused("8: ahead of rolling", y, Check.STATE, () -> y.road(29));
+        Check.refused("10: ahead of rolling", y, Check.STATE, () -> y.city(0));
+        y.roll(1, 6);
+        Check.same("22: discards are due", y.phase(), Hexstead.DISCARD);
+        Check.refused("9: discards are due", y, Check.STATE, () -> y.house(9));
+        Check.refused("8: discards are due", y, Check.STATE, () -> y.road(29));
+        Check.refused("10: discards are due", y, Check.STATE, () -> y.city(0));
     }
 
     private static void houseNeedsAllGoods() {
@@ -197,14 +211,15 @@ final class BuildTest {
 
     private static void mostCities() {
         Hexstead x = Games.deserts();
-        x.place(7, 13);
         x.place(2, 8);
+        x.place(7, 13);
         x.place(4, 10);
         x.place(16, 21);
-        x.place(13, 18);
         x.place(22, 28);
-        x.deal(0, 99255);
-        x.deal(0, 31000);
+        x.place(13, 18);
+        x.deal(1, 99255);
+        x.deal(1, 31000);
+        Games.pass(x);
         x.roll(1, 1);
         int[] edges = {14, 27, 26};
         for (int edge : edges) {
@@ -215,7 +230,8 @@ final class BuildTest {
         Check.same("10: a city", x.city(7), 5);
         Check.same("10: a second one", x.city(22), 6);
         Check.same("10: a third one", x.city(9), 7);
-        Check.same("24: the goods for a fourth one are there", Games.goods(x, 0), 32000);
+        Check.same("33: a city of 1", x.buildingAt(9), 4);
+        Check.same("24: the goods for a fourth one are there", Games.goods(x, 1), 32000);
         Check.refused("10: a fourth one", x, Check.STATE, () -> x.city(20));
     }
 

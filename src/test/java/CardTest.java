@@ -22,6 +22,7 @@ final class CardTest {
         plenty();
         plentyRefused();
         monopoly();
+        monopolyOfAnother();
         monopolyRefused();
         Check.end();
     }
@@ -98,7 +99,8 @@ final class CardTest {
     private static void buyWins() {
         Hexstead x = Games.placedOnDeserts();
         x.deal(0, 99999);
-        x.deal(0, 33333);
+        x.deal(0, 33233);
+        x.deal(1, 100);
         x.roll(1, 1);
         x.buy();
         x.city(0);
@@ -107,6 +109,8 @@ final class CardTest {
         x.road(14);
         x.road(15);
         Check.same("9: 7 points", x.house(9), 7);
+        x.offer(1, 100);
+        x.counter(1, 100, 1);
         Check.same("11: a POINT", x.buy(), Hexstead.POINT);
         Check.same("27: 8 points", x.points(0), 8);
         Check.same("22: over", x.phase(), Hexstead.OVER);
@@ -115,6 +119,9 @@ final class CardTest {
         Check.refused("11: over", x, Check.STATE, x::buy);
         Check.refused("16: over", x, Check.STATE, () -> x.swap(0, 1));
         Check.refused("17: over", x, Check.STATE, () -> x.offer(1, 10));
+        Check.refused("18: over", x, Check.STATE, () -> x.counter(1, 100, 1));
+        Check.refused("19: over", x, Check.STATE, () -> x.accept(1));
+        Check.refused("20: over", x, Check.STATE, () -> x.agree(1));
         Check.refused("21: over", x, Check.STATE, x::endTurn);
     }
 
@@ -422,6 +429,24 @@ final class CardTest {
         y.roll(1, 1);
         Check.same("15: nobody has ORE", y.monopoly(Hexstead.ORE), 0);
         Check.same("32: used all the same", y.cards(0, Hexstead.MONOPOLY), 0);
+    }
+
+    private static void monopolyOfAnother() {
+        Hexstead x = Games.placedOnDeserts();
+        x.deal(0, 30);
+        x.deal(1, 66610);
+        x.deal(2, 40);
+        Games.pass(x);
+        x.roll(1, 1);
+        for (int i = 0; i < 6; i++) {
+            x.buy();
+        }
+        x.endTurn();
+        Games.pass(x);
+        Games.pass(x);
+        Check.same("15: of 0 and of 2", x.monopoly(Hexstead.WOOD), 7);
+        Check.same("15: 1 has them", Games.goods(x, 1), 80);
+        Check.same("15: 0 and 2 have none", Games.total(x, 0) + Games.total(x, 2), 0);
     }
 
     private static void monopolyRefused() {

@@ -15,6 +15,7 @@ final class TradeTest {
         offerInPlaceOfAnother();
         counterAndAgree();
         counterRefused();
+        inTheTurnOfAnother();
         counterInPlaceOfAnother();
         agreeRefused();
         goneAtTheEndOfTheTurn();
@@ -83,7 +84,8 @@ final class TradeTest {
     private static void swapRefused() {
         Hexstead x = Games.placedOnDeserts();
         x.deal(0, 33);
-        x.deal(2, 90000);
+        x.deal(1, 2000);
+        x.deal(2, 99000);
         x.deal(2, 30000);
         x.roll(1, 1);
         int[] wrong = {-1, 5, Integer.MAX_VALUE};
@@ -95,7 +97,8 @@ final class TradeTest {
         Check.refused("16: 3 WOOD are too few", x, Check.STATE, () -> x.swap(Hexstead.WOOD, Hexstead.BRICK));
         Check.refused("16: no WOOL at all", x, Check.STATE, () -> x.swap(Hexstead.WOOL, Hexstead.BRICK));
         Check.refused("16: the bank has no ORE", x, Check.STATE, () -> x.swap(Hexstead.BRICK, Hexstead.ORE));
-        Check.same("16: of another good it has", x.swap(Hexstead.BRICK, Hexstead.WOOL), 1);
+        Check.same("24: the bank has one GRAIN", x.hand(3, Hexstead.GRAIN), 1);
+        Check.same("16: the last one", x.swap(Hexstead.BRICK, Hexstead.GRAIN), 1);
         Check.refused("16: one BRICK is too few", x, Check.STATE, () -> x.swap(Hexstead.BRICK, Hexstead.WOOL));
     }
 
@@ -142,6 +145,9 @@ final class TradeTest {
         Check.refused("19: player 3", x, Check.INDEX, () -> x.accept(3));
         Check.refused("19: player -1", x, Check.INDEX, () -> x.accept(-1));
         Check.refused("19: the own turn", x, Check.STATE, () -> x.accept(0));
+        x.offer(1, 10);
+        Check.refused("19: the own turn, with all the goods", x, Check.STATE, () -> x.accept(0));
+        x.offer(3, 1000);
         Check.refused("19: 2 has no GRAIN", x, Check.STATE, () -> x.accept(2));
         x.swap(Hexstead.BRICK, Hexstead.WOOL);
         Check.refused("19: 0 has not so many any more", x, Check.STATE, () -> x.accept(1));
@@ -214,6 +220,21 @@ final class TradeTest {
         Check.refused("18: has none", x, Check.STATE, () -> x.counter(2, 1000, 1));
         x.counter(1, 2300, 99999);
         Check.refused("20: 0 has not so many", x, Check.STATE, () -> x.agree(1));
+    }
+
+    private static void inTheTurnOfAnother() {
+        Hexstead x = market();
+        x.endTurn();
+        x.roll(1, 1);
+        x.offer(100, 10000);
+        x.counter(0, 1, 100);
+        Check.refused("18: the own turn", x, Check.STATE, () -> x.counter(1, 100, 1));
+        x.offer(100, 10000);
+        Check.refused("20: gone with the next offer", x, Check.STATE, () -> x.agree(0));
+        x.counter(0, 12, 1100);
+        Check.same("20: how many 1 has", x.agree(0), 6);
+        Check.same("20: 1", Games.goods(x, 1), 1212);
+        Check.same("20: 0", Games.goods(x, 0), 1111);
     }
 
     private static void counterInPlaceOfAnother() {

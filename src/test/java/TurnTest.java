@@ -7,6 +7,7 @@ final class TurnTest {
         rollBears();
         rollRefused();
         robbersHexagonBearsNothing();
+        hexagonThatTheRobberLeft();
         shortBankForTwo();
         shortBankForOne();
         shortBankWithCities();
@@ -80,6 +81,25 @@ final class TurnTest {
         x.roll(3, 3);
         Check.same("5: the robber is there", x.hand(0, Hexstead.BRICK), 1);
         Check.same("35: the robber", x.robber(), 1);
+    }
+
+    private static void hexagonThatTheRobberLeft() {
+        Hexstead x = Games.deserts();
+        x.layHex(0, Hexstead.GRAIN, 6);
+        x.place(0, 6);
+        x.place(2, 8);
+        x.place(4, 10);
+        x.place(16, 21);
+        x.place(13, 18);
+        x.place(7, 12);
+        Check.same("37: the robber is there", x.wouldGet(0, Hexstead.GRAIN, 6), 0);
+        x.roll(1, 6);
+        x.rob(1, Hexstead.NONE, 0);
+        Check.same("37: the robber has left", x.wouldGet(0, Hexstead.GRAIN, 6), 1);
+        x.endTurn();
+        x.roll(3, 3);
+        Check.same("5: the hexagon 0 bears", x.hand(0, Hexstead.GRAIN), 1);
+        Check.same("5: for all", x.hand(3, Hexstead.GRAIN), 9);
     }
 
     /** The hexagons 1 and 2 bear ORE at 6; 0 has a house at the one, 1 at the other, both have 3 WOOD. */
@@ -233,6 +253,11 @@ final class TurnTest {
         x.endTurn();
         x.roll(5, 2);
         Check.same("7: 2 has nothing", x.rob(4, Hexstead.NONE, 0), Hexstead.NONE);
+        x.endTurn();
+        x.roll(5, 2);
+        Check.refused("7: 0 has a BRICK", x, Check.STATE, () -> x.rob(1, Hexstead.NONE, 0));
+        Check.same("7: the last good of 0", x.rob(1, 0, 999), Hexstead.BRICK);
+        Check.same("7: 2 has it", x.hand(2, Hexstead.BRICK), 1);
     }
 
     private static void robRefused() {
