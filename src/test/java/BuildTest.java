@@ -16,6 +16,7 @@ final class BuildTest {
         cityRefused();
         trailRoundARing();
         trailRoundARingWithAStranger();
+        trailOfAllRoads();
         trailWithBranches();
         trailHolderStaysAndGoes();
         noHolderBelowFive();
@@ -296,6 +297,23 @@ final class BuildTest {
         Check.same("8: from it round to it", x.road(3), 6);
         Check.same("8: a tail needs the way through it", x.road(6), 6);
         bothTrails("a ring with a stranger and a tail", x, 0, 6);
+    }
+
+    private static void trailOfAllRoads() {
+        Hexstead x = Games.deserts();
+        x.place(7, 12);
+        x.place(2, 8);
+        x.place(4, 10);
+        x.place(16, 21);
+        x.place(13, 18);
+        x.place(22, 28);
+        x.deal(0, 66);
+        x.roll(1, 1);
+        int[] edges = {29, 13, 14, 15, 16, 17};
+        for (int i = 0; i < edges.length; i++) {
+            Check.same("8: along the shore", x.road(edges[i]), 3 + i);
+        }
+        bothTrails("all roads", x, 0, 8);
     }
 
     private static void trailWithBranches() {
