@@ -20,6 +20,22 @@ final class Games {
         return x;
     }
 
+    /**
+     * On deserts, for each player to be the one that a test is about: that player has 0 and 7 with the edges 6 and 12,
+     * the next one 2 and 13 with 8 and 18, the last one 4 and 16 with 10 and 21.
+     */
+    static Hexstead placedFor(int me) {
+        int[][] corners = {{0, 7}, {2, 13}, {4, 16}};
+        int[][] edges = {{6, 12}, {8, 18}, {10, 21}};
+        int[] order = {0, 1, 2, 2, 1, 0};
+        Hexstead x = deserts();
+        for (int i = 0; i < 6; i++) {
+            int part = (order[i] - me + 3) % 3;
+            x.place(corners[part][i / 3], edges[part][i / 3]);
+        }
+        return x;
+    }
+
     static Hexstead deserts() {
         Hexstead x = new Hexstead();
         for (int hex = 0; hex < 7; hex++) {
@@ -64,6 +80,12 @@ final class Games {
 
     static void passUntil(Hexstead x, int player) {
         for (int turns = 0; turns < 3 && (turns == 0 || x.turn() != player); turns++) {
+            pass(x);
+        }
+    }
+
+    static void passTo(Hexstead x, int player) {
+        for (int turns = 0; turns < 2 && x.turn() != player; turns++) {
             pass(x);
         }
     }
