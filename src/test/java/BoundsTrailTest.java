@@ -10,6 +10,7 @@ final class BoundsTrailTest {
         throughOwnBuildings();
         toAStrangersBuildingButNotThrough();
         aStrangersCityToo();
+        towardsTwoStrangers();
         ringAndTails();
         ringThroughAStranger();
         tailsOnBothSidesOfAStranger();
@@ -121,6 +122,25 @@ final class BoundsTrailTest {
         Check.same("8: 9 is free", y.road(7), 2);
         Check.same("8: past 1, which has no building", y.road(0), 3);
         trails("all of it", y, 0, 3);
+    }
+
+    /** Two rows apart from one another, each to another building of a stranger: they do not meet there. */
+    private static void towardsTwoStrangers() {
+        Hexstead x = Games.deserts();
+        x.place(1, 7);
+        x.place(8, 13);
+        x.place(5, 11);
+        x.place(19, 25);
+        x.place(16, 22);
+        x.place(3, 9);
+        x.deal(0, 33);
+        x.roll(1, 1);
+        Check.same("8: to the house at 8", x.road(14), 2);
+        trails("to the house at 8", x, 0, 2);
+        Check.same("8: to the house at 16", x.road(21), 2);
+        trails("to the houses at 8 and at 16", x, 0, 2);
+        Check.same("8: on the far side of one row", x.road(1), 3);
+        trails("to the houses at 8 and at 16, one row longer", x, 0, 3);
     }
 
     private static void aStrangersCityToo() {
